@@ -22,6 +22,10 @@ public final class FormFields {
     private static final int SIDE = 7;
     private static final int SETTINGS = 8;
 
+    private static final int SUM = 0;
+    private static final int DIFFERENCE = 1;
+    private static final int PRODUCT = 2;
+    private static final int QUOTIENT = 3;
     private static final int LESSER = 4;
     private static final int GREATER = 5;
     private static final int GROUP_SUM = 6;
@@ -678,13 +682,13 @@ public final class FormFields {
         /** What a formula of two fields comes to, or no amount. */
         static long combine(int op, long a, long b) {
             switch (op) {
-                case 0:
+                case SUM:
                     return a + b;
-                case 1:
+                case DIFFERENCE:
                     return a - b;
-                case 2:
+                case PRODUCT:
                     return product(a, b);
-                case 3:
+                case QUOTIENT:
                     return b == 0 ? NO_AMOUNT : a * 1000 / b;
                 case LESSER:
                     return Math.min(a, b);
@@ -847,7 +851,7 @@ public final class FormFields {
 
         /** Whether op may stand with these fields; it throws if one of them is not there. */
         boolean mayWorkWith(int op, int a, int b) {
-            if (op >= 0 && op <= GREATER) {
+            if (op >= SUM && op <= GREATER) {
                 Field left = tree.get(a);
                 Field right = tree.get(b);
                 return canBeReckoned(left) && canBeReckoned(right);
@@ -904,7 +908,7 @@ public final class FormFields {
         }
 
         private long needsOf(Field f) {
-            if (f.op >= 0 && f.op <= GREATER) {
+            if (f.op >= SUM && f.op <= GREATER) {
                 return bit(tree.get(f.a).first) | bit(tree.get(f.b).first);
             }
             return f.op == GROUP_SUM ? numbersIn(f.a) : 0;

@@ -9,6 +9,8 @@ public final class AmountsTest {
         commasPartTheWhole();
         formulaRefuses();
         formulasOfTwo();
+        formulasOfBoxes();
+        everyOpNeedsItsFields();
         productsAndQuotientsAtTheEdge();
         groupSums();
         constantsAreWritten();
@@ -123,6 +125,11 @@ public final class AmountsTest {
         dueDecimals(x, n, "-0.449", "0", "-0.4", "-0.45", "-0.449");
         dueDecimals(x, n, "0.445", "0", "0.4", "0.45", "0.445");
         dueDecimals(x, n, "-0.004", "0", "0.0", "0.00", "-0.004");
+        dueDecimals(x, n, "-0.001", "0", "0.0", "0.00", "-0.001");
+        dueDecimals(x, n, "-0.5", "-1", "-0.5", "-0.50", "-0.500");
+        dueDecimals(x, n, "0.499", "0", "0.5", "0.50", "0.499");
+        dueDecimals(x, n, "1.949", "2", "1.9", "1.95", "1.949");
+        dueDecimals(x, n, "-1.994", "-2", "-2.0", "-1.99", "-1.994");
         dueDecimals(x, n, "-0", "0", "0.0", "0.00", "0.000");
         dueDecimals(x, n, "007.05", "7", "7.1", "7.05", "7.050");
         dueDecimals(x, n, "999999999.999", "1000000000", "1000000000.0", "1000000000.00", "999999999.999");
@@ -216,7 +223,39 @@ public final class AmountsTest {
         dueWorked("fails", 5, "1", "-");
     }
 
+    private static void formulasOfBoxes() {
+        Form x = new Form();
+        int off = x.top(Form.BOX, 1);
+        int on = x.top(Form.BOX, 2);
+        int n = x.top(Form.NUMBER, 3);
+        x.f.value(on, 1);
+        String[] want = {"1", "-1", "0", "0", "0", "1"};
+        for (int op = 0; op <= 5; op++) {
+            x.f.formula(n, op, off, on);
+            x.f.calculate();
+            x.dueData("1=0\n2=1\n3=" + want[op] + "\n");
+        }
+        x.f.formula(n, 3, on, off);
+        Check.due("by an empty box", 0, () -> x.f.calculate());
+        Check.due("it failed", n, () -> x.f.failed(0));
+    }
+
+    private static void everyOpNeedsItsFields() {
+        for (int op = 0; op <= 5; op++) {
+            for (int side = 0; side <= 1; side++) {
+                Form x = two("5", "5");
+                x.f.formula(2, 7, 3000, 0);
+                x.f.formula(0, op, side == 0 ? 2 : 1, side == 0 ? 1 : 2);
+                Check.due("both", 2 - (op == 5 ? 1 : 0), () -> x.f.calculate());
+                x.f.formula(2, op, 1, 0);
+                Check.due("a ring with the first", -1, () -> x.f.calculate());
+            }
+        }
+    }
+
     private static void productsAndQuotientsAtTheEdge() {
+        dueWorked("0", 2, "999999999.999", "0");
+        dueWorked("999999.999", 2, "999999999.999", "0.001");
         dueWorked("999999999.999", 0, "999999999.998", "0.001");
         dueWorked("fails", 0, "999999999.999", "0.001");
         dueWorked("-999999999.999", 1, "-999999999.998", "0.001");

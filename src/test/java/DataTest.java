@@ -10,6 +10,7 @@ public final class DataTest {
         readTakesTheLastLine();
         namesAreAsWritten();
         linesThatAreNoGood();
+        codesOfEveryLength();
         radiosAreReadAsTheyAreNow();
         lockedAndFlat();
         cellsBoundWhatIsRead();
@@ -148,6 +149,20 @@ public final class DataTest {
         }
         x.dueData("0.1=\n0.2=0\n0.3=\n0.4=\n0.5=\n");
         x.dueRead(2, "0.1=" + "a".repeat(30) + "\n0.5=12345678901234\n");
+    }
+
+    private static void codesOfEveryLength() {
+        Form x = new Form();
+        int c = x.top(Form.CHOICE, 1);
+        int[] codes = {0, 10, 999, 1000, 99999};
+        for (int code : codes) {
+            x.f.option(c, code);
+        }
+        for (int code : codes) {
+            x.dueRead(1, "1=" + code + "\n");
+            x.dueData("1=" + code + "\n");
+            x.dueRead(-1, "1=0" + code + "\n");
+        }
     }
 
     private static void radiosAreReadAsTheyAreNow() {

@@ -8,6 +8,8 @@ public final class PageTest {
         marksBySide();
         marksBeyondTheWidth();
         marksInCells();
+        marksInOneCell();
+        cellsMakeTheSignsSmall();
         marksStayAsMade();
         flattenRefuses();
         flattenIsOfTheFieldItself();
@@ -112,6 +114,28 @@ public final class PageTest {
         x.dueMarks("0:0:0:0 97:-1:77:6 98:0:77:6 99:1:77:6", t);
         x.f.set(t, 5, 0);
         x.dueMarks("0:0:0:0 97:-1:77:6 98:-1:77:6 99:-1:77:6", t);
+    }
+
+    private static void marksInOneCell() {
+        Form x = new Form();
+        int t = x.top(Form.TEXT, 1);
+        x.f.set(t, 1, 1);
+        x.f.set(t, 5, 47);
+        Check.due("an empty cell is as wide as a sign", 48, () -> x.f.size(t));
+        x.f.value(t, 97);
+        Check.refused("one sign only", Form.FULL, () -> x.f.value(t, 98));
+        x.f.set(t, 7, 2);
+        x.dueMarks("0:0:0:0 97:11:56:48", t);
+    }
+
+    private static void cellsMakeTheSignsSmall() {
+        Form x = new Form();
+        int t = x.top(Form.TEXT, 1);
+        x.f.value(t, 97);
+        x.f.set(t, 1, 30);
+        x.dueMarks("0:0:0:0 97:1:56:48", t);
+        x.f.set(t, 1, 0);
+        x.dueMarks("0:0:0:0 97:0:32:96", t);
     }
 
     private static void marksStayAsMade() {
