@@ -18,6 +18,7 @@ public final class AmountsTest {
         failuresAreTold();
         failingIsTold();
         rings();
+        fortyFormulas();
         formulasWriteWhatIsLocked();
         Check.end();
     }
@@ -411,6 +412,31 @@ public final class AmountsTest {
         Check.due("round by a group", -3, () -> x.f.calculate());
         x.f.formula(2, -1, 0, 0);
         Check.due("no ring: 1 and the sum", 2, () -> x.f.calculate());
+    }
+
+    private static void fortyFormulas() {
+        Form x = new Form();
+        for (int i = 0; i < 40; i++) {
+            x.top(Form.NUMBER, i);
+        }
+        for (int i = 0; i < 39; i++) {
+            x.f.formula(i, 0, i + 1, 39);
+        }
+        x.f.formula(39, 7, 1, 0);
+        Check.due("all, from the last on", 40, () -> x.f.calculate());
+        x.dueShown("0.040", 0);
+        x.f.formula(39, 0, 38, 38);
+        Check.due("only the last two are in a ring", -39, () -> x.f.calculate());
+        x.f.formula(39, 0, 0, 0);
+        Check.due("all are", -1, () -> x.f.calculate());
+        x.dueShown("0.040", 0);
+        x.f.formula(39, 7, 1, 0);
+        for (int i = 0; i < 40; i++) {
+            x.f.fails(i, true);
+        }
+        Check.due("all fail", 0, () -> x.f.calculate());
+        Check.due("forty", 40, () -> x.f.failed(-1));
+        Check.due("the last of them", 0, () -> x.f.failed(39));
     }
 
     private static void formulasWriteWhatIsLocked() {
