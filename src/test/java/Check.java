@@ -5,36 +5,39 @@ final class Check {
     }
 
     private static int wrong = 0;
+    private static String during = "";
 
     private Check() {
     }
 
+    /** Told before what is printed, until the next. */
+    static void during(String words) {
+        during = words;
+    }
+
     static void due(String what, long want, Call call) {
-        String got;
-        try {
-            got = Long.toString(call.answer());
-        } catch (RuntimeException e) {
-            got = e.getClass().getSimpleName();
-        }
-        same(what, Long.toString(want), got);
+        same(what, Long.toString(want), answer(call));
     }
 
     /** The very class of the exception is due, not one below it. */
     static void refused(String what, Class<? extends RuntimeException> want, Call call) {
-        String got;
+        same(what, want.getSimpleName(), answer(call));
+    }
+
+    /** The number that a call answers, or the name of what it throws. */
+    static String answer(Call call) {
         try {
-            got = Long.toString(call.answer());
+            return Long.toString(call.answer());
         } catch (RuntimeException e) {
-            got = e.getClass().getSimpleName();
+            return e.getClass().getSimpleName();
         }
-        same(what, want.getSimpleName(), got);
     }
 
     static void same(String what, String want, String got) {
         if (!want.equals(got)) {
             wrong++;
             if (wrong <= 50) {
-                System.out.println(what + " answered " + got + ", due is " + want);
+                System.out.println(during + what + " answered " + got + ", due is " + want);
             }
         }
     }

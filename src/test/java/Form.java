@@ -16,11 +16,31 @@ final class Form {
     static final int CHOICE = 4;
     static final int NUMBER = 5;
 
+    interface OfField {
+        long answer(int field);
+    }
+
     final FormFields f = new FormFields();
 
     /** A field without a parent. */
     int top(int kind, int name) {
         return f.field(-1, kind, name);
+    }
+
+    /** One field of each kind, its number and its name being its kind. */
+    static Form everyKind() {
+        Form x = new Form();
+        for (int kind = GROUP; kind <= NUMBER; kind++) {
+            x.top(kind, kind);
+        }
+        return x;
+    }
+
+    /** A call of a field that is not there: before the first, behind the last, and far away. */
+    static void dueMissing(String what, int fields, OfField call) {
+        for (int number : new int[] {-1, -2, fields, fields + 1, 40, Integer.MAX_VALUE, Integer.MIN_VALUE}) {
+            Check.refused(what + " of field " + number, MISSING, () -> call.answer(number));
+        }
     }
 
     void tell(int field, String signs) {
@@ -53,6 +73,16 @@ final class Form {
 
     void dueData(String want) {
         Check.same("data", want, data());
+    }
+
+    /** What stands behind the name in the data, or none if there is no such line. */
+    String lineOf(String fullName) {
+        for (String line : data().split("\n")) {
+            if (line.startsWith(fullName + "=")) {
+                return line.substring(fullName.length() + 1);
+            }
+        }
+        return "none";
     }
 
     void send(String bytes) {
