@@ -16,7 +16,7 @@ final class Form {
     static final int CHOICE = 4;
     static final int NUMBER = 5;
 
-    interface OfField {
+    interface OfNumber {
         long answer(int field);
     }
 
@@ -37,7 +37,7 @@ final class Form {
     }
 
     /** A call of a field that is not there: before the first, behind the last, and far away. */
-    static void dueMissing(String what, int fields, OfField call) {
+    static void dueMissing(String what, int fields, OfNumber call) {
         for (int number : new int[] {-1, -2, fields, fields + 1, 40, Integer.MAX_VALUE, Integer.MIN_VALUE}) {
             Check.refused(what + " of field " + number, MISSING, () -> call.answer(number));
         }
