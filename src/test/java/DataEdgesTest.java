@@ -64,6 +64,7 @@ public final class DataEdgesTest {
         Sentence.holds("Promise 20", "IllegalArgumentException", DataEdgesTest::noSuchByteToRead);
         Sentence.holds("Promise 20", "UnsupportedOperationException when there are 3000", DataEdgesTest::theThreeThousandAndFirstByte);
         Sentence.holds("Promise 20", "UnsupportedOperationException when there are 3000", DataEdgesTest::threeThousandBytesMayBeRead);
+        Sentence.holds("What it is", "An object is used for at most 512 calls after it has been made", DataEdgesTest::theLastOf512Calls);
     }
 
     private static void oneLineOfEachMasterByNumbers() {
@@ -350,7 +351,7 @@ public final class DataEdgesTest {
         x.f.field(g, Form.BOX, 10);
         int h = x.top(Form.GROUP, 5);
         x.f.field(h, Form.BOX, 0);
-        for (String name : new String[] {"00.10", "0.010", ".10", "0.", "0..10", "0.10.", ".0.10", " 0.10", "0.10 ", "0.1", "0.100", "-0.10", "+0.10", "0,10", "5", "5.", "5.00", "5.-0", "05.0"}) {
+        for (String name : new String[] {"00.10", "0.010", ".10", "0.", "0..10", "0.10.", ".0.10", " 0.10", "0.10 ", "0.1", "0.100", "-0.10", "+0.10", "0,10", "5", "5.", "5.00", "5.-0", "05.0", "0.:", "0.1:", "0.1/", "/:.10"}) {
             x.dueRead(-1, name + "=1\n");
         }
         x.dueData("0.10=0\n5.0=0\n");
@@ -365,7 +366,7 @@ public final class DataEdgesTest {
             x.f.option(field, 7);
             x.f.option(field, 10);
             x.f.option(field, 99999);
-            for (String code : new String[] {"00", "07", "010", "099999", " 7", "7 ", "+7", "-0", "7.", "1", "1 0", "100000", "999990", "4294967303", "18446744073709551623"}) {
+            for (String code : new String[] {"00", "07", "010", "099999", " 7", "7 ", "+7", "-0", "7.", ":", "1&", "999:/", "1", "1 0", "100000", "999990", "4294967303", "18446744073709551623"}) {
                 x.dueRead(-1, "1=" + code + "\n");
             }
             for (String code : new String[] {"0", "7", "10", "99999"}) {
@@ -538,6 +539,20 @@ public final class DataEdgesTest {
         Check.refused("one more", Form.FULL, () -> x.f.read('1'));
         Check.refused("also 255", Form.FULL, () -> x.f.read(255));
         Check.refused("also 0", Form.FULL, () -> x.f.read(0));
+    }
+
+    private static void theLastOf512Calls() {
+        Form x = new Form();
+        x.top(Form.TEXT, 1);
+        x.send("1=\n".repeat(168) + "1=abc\n");
+        Check.due("call 512", 169, () -> x.f.read(-1));
+        Form y = new Form();
+        y.top(Form.TEXT, 1);
+        for (int i = 0; i < 255; i++) {
+            Check.due("a sign", 1, () -> y.f.value(0, 'a'));
+            Check.due("gone", 0, () -> y.f.value(0, -1));
+        }
+        Check.due("call 512", 1, () -> y.f.value(0, 'b'));
     }
 
     private static void threeThousandBytesMayBeRead() {

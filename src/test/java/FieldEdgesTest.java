@@ -147,9 +147,13 @@ public final class FieldEdgesTest {
         Check.due("in all", 39, () -> last);
         x.dueData("7.".repeat(39) + "7=0\n");
         x.dueRead(1, "7.".repeat(39) + "7=1\n");
+        Check.due("it was told", 'X', () -> x.f.shown(last, 0));
+        x.f.value(last, 0);
         x.dueRead(-1, "7.".repeat(38) + "7=1\n");
         x.dueRead(-1, "7.".repeat(40) + "7=1\n");
-        Check.due("it was told", 'X', () -> x.f.shown(last, 0));
+        x.dueRead(-1, "7.".repeat(40) + "=1\n");
+        x.dueRead(-1, ".7".repeat(40) + "=1\n");
+        Check.due("no other line told it", -1, () -> x.f.shown(last, 0));
     }
 
     private static void oneNameOneKind() {

@@ -15,6 +15,7 @@ public final class FormulaEdgesTest {
         Sentence.holds("Terms", "op 0 their sum, 1 a less b", FormulaEdgesTest::sumsAndDifferences);
         Sentence.holds("Terms", "2 a times b", FormulaEdgesTest::productsAreCutOffTowards0);
         Sentence.holds("Terms", "3 a by b", FormulaEdgesTest::quotientsAreCutOffTowards0);
+        Sentence.holds("Terms", "(thousandths, cut off towards 0)", FormulaEdgesTest::whatIsLessThanAThousandthIsCutOff);
         Sentence.holds("Terms", "4 the lesser, 5 the greater", FormulaEdgesTest::theLesserAndTheGreater);
         Sentence.holds("Terms", "6 the sum of all NUMBERS in GROUP a, at any depth (each MASTER once)", FormulaEdgesTest::theSumOfAnEmptyGroupIs0);
         Sentence.holds("Terms", "6 the sum of all NUMBERS in GROUP a, at any depth (each MASTER once)", FormulaEdgesTest::numbersAloneAreSummed);
@@ -142,6 +143,9 @@ public final class FormulaEdgesTest {
 
     private static void productsAreCutOffTowards0() {
         dueWorked("0", 2, "", "999999999.999");
+        dueWorked("0", 2, "999999999.999", "");
+        dueWorked("0", 2, "-999999999.999", "-0.000");
+        dueWorked("0", 2, "", "");
         dueWorked("0", 2, "0.001", "0.999");
         dueWorked("0", 2, "-0.001", "0.999");
         dueWorked("0", 2, "0.001", "-0.999");
@@ -167,6 +171,22 @@ public final class FormulaEdgesTest {
         dueWorked("1", 3, "999999999.999", "999999999.999");
         dueWorked("-1", 3, "-999999999.999", "999999999.999");
         dueWorked("0", 3, "0.999", "999.001");
+    }
+
+    private static void whatIsLessThanAThousandthIsCutOff() {
+        String[] signs = {"", "-"};
+        for (String a : signs) {
+            for (String b : signs) {
+                String minus = a.equals(b) ? "" : "-";
+                dueWorked("0", 2, a + "0.999", b + "0.001");
+                dueWorked(minus + "0.001", 2, a + "0.999", b + "0.002");
+                dueWorked(minus + "0.998", 2, a + "0.999", b + "0.999");
+                dueWorked("0", 3, a + "0.001", b + "1.001");
+                dueWorked(minus + "0.001", 3, a + "0.001", b + "0.501");
+                dueWorked(minus + "0.002", 3, a + "0.001", b + "0.5");
+                dueWorked(minus + "0.999", 3, a + "999.999", b + "1000");
+            }
+        }
     }
 
     private static void theLesserAndTheGreater() {
@@ -347,6 +367,9 @@ public final class FormulaEdgesTest {
         x.tell(m, "1.0000");
         x.f.calculate();
         Check.due("the last of the group has none", sum, () -> x.f.failed(0));
+        x.tell(n, ".");
+        x.f.calculate();
+        Check.due("both have none", sum, () -> x.f.failed(0));
         Check.same("nothing is written", "", x.lineOf("2"));
     }
 
@@ -868,6 +891,12 @@ public final class FormulaEdgesTest {
             Check.due("it fails", 0, () -> x.f.calculate());
             Check.due("each time", 1, () -> x.f.failed(-1));
         }
+        x.f.formula(0, -1, 0, 0);
+        Check.due("no formula fails", 0, () -> x.f.calculate());
+        Check.due("none failed", 0, () -> x.f.failed(-1));
+        x.f.formula(0, 7, 2000, 0);
+        Check.due("the next one does", 0, () -> x.f.calculate());
+        Check.due("it failed", 1, () -> x.f.failed(-1));
         x.f.fails(0, false);
         Check.due("not now", 1, () -> x.f.calculate());
         Check.due("not now", 0, () -> x.f.failed(-1));
